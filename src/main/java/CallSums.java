@@ -334,8 +334,9 @@ public final class CallSums {
         /** For the same: the slot that is served first. */
         private final int[] first = new int[SETS * PLACES];
 
+        /** For what is no set or no place: cell 0, the empty set's, which stays 0. */
         private static int cell(int set, int place) {
-            return set * PLACES + place;
+            return set >= 0 && set < SETS && place >= 0 && place < PLACES ? set * PLACES + place : 0;
         }
 
         long costOf(int set) {
@@ -391,10 +392,10 @@ public final class CallSums {
 
         /** From leaving a place until it comes to a call's floor. */
         int secondsTo(Giving giving, int place, int slot) {
-            if (place == START) {
-                return delay + speed * Math.abs(floor - giving.from[slot]);
+            if (place >= 0 && place < MOST_OPEN) {
+                return speed * Math.abs(giving.to[place] - giving.from[slot]);
             }
-            return speed * Math.abs(giving.to[place] - giving.from[slot]);
+            return delay + speed * Math.abs(floor - giving.from[slot]);
         }
 
         /** From coming to a call's floor until it comes to its goal. */

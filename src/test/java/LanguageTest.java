@@ -6,12 +6,13 @@ import java.util.regex.Pattern;
 
 /** What of ../shared/LANGUAGE.md a look at the source's words can tell. */
 final class LanguageTest {
-    /** Words that the rules leave no place for, and signs of lambdas, method references and texts joined. */
+    /** What the rules leave no place for: words, the signs of lambdas and method references, texts joined by +. */
     private static final String[] BARRED = {
-        "\\bimport\\b", "\\bpackage\\b", "->", "::", "\\bfinally\\b", "\\bsynchronized\\b", "\\bassert\\b",
-        "\\bcatch\\b", "\\bextends\\b", "\\bjava\\.", "Exact\\(", "_VALUE\\b", "\"\\s*\\+", "\\+\\s*\"",
-        "\\bequals\\b", "\\bhashCode\\b", "\\btoString\\b", "\\bprotected\\b", "\\bstatic\\s*\\{",
-        "\\bwhile\\b", "\\bObject\\b", "\\bString\\b", "\\bMath\\.(?!max\\b|min\\b|abs\\b)",
+        "\\bimport\\b", "\\bpackage\\b", "\\bjava\\.", "\\bprotected\\b", "\\bstatic\\s*\\{", "->", "::",
+        "\\bfinally\\b", "\\bsynchronized\\b", "\\bassert\\b", "\\bObject\\b", "\\bhashCode\\b",
+        "Exact\\(", "_VALUE\\b", "\"\\s*\\+", "\\+\\s*\"",
+        "\\b(ArrayIndexOutOfBounds|NullPointer|ClassCast|NegativeArraySize|ArrayStore)Exception\\b",
+        "\\bcatch\\s*\\(\\s*(final\\s+)?(Runtime|IndexOutOfBounds|Arithmetic)?(Exception|Throwable|Error)\\b",
     };
     private static final Pattern THROW = Pattern.compile("throw new (\\w+)\\(\"[^\"]*\"\\);");
 

@@ -414,6 +414,8 @@ final class PromiseTest {
             due("11: six alike, the car of " + i, z.carOf(i), i / 3);
             due("11: six alike, the turn of " + i, z.turn(i / 3, i % 3), i);
         }
+        due("13: no more of car 0", z.turn(0, 3), NONE);
+        due("13: not car 1's", z.turn(0, 6), NONE);
     }
 
     /** Promise 11: the one that is begun. */
@@ -441,6 +443,19 @@ final class PromiseTest {
         due("11: 1 has no car", x.carOf(1), NONE);
         x.begin(1, NONE);
         due("11: given anew", x.give(), 12);
+
+        CallSums y = new CallSums(20);
+        y.car(0, 1);
+        y.call(18, 19);
+        y.call(1, 2);
+        // 1 first: 1 + 5, leaves floor 2 at 8: 24 + 28
+        due("11: the near one first", y.give(), 58);
+        y.begin(0, 0);
+        // 0 first: 18 + 22, leaves floor 19 at 25: 43 + 47
+        due("11: the begun one first", y.give(), 130);
+        due("11: its row", y.turn(0, 0), 0);
+        y.done(0);
+        due("11: the other alone", y.give(), 6);
     }
 
     /** Promise 11: six calls that have waited long, at a car that comes late. */
