@@ -563,6 +563,9 @@ public final class CallSums {
             int left = 0;
             for (int k = 0; k < MOST_OPEN && rest != 0; k++) {
                 int slot = rows.firstOf(rest, place);
+                if (slot < 0 || slot >= MOST_OPEN) {
+                    return;
+                }
                 pick[slot] = left + rows.secondsTo(this, place, slot);
                 set[slot] = pick[slot] + rows.secondsWith(this, slot);
                 row[ofCar * MOST_OPEN + k] = number[slot];

@@ -2,12 +2,22 @@
 final class Checks {
     private int made;
     private int wrong;
+    private String about = "";
+
+    /** A test of one sentence of the document; it must make a check. */
+    void about(String sentence, Runnable test) {
+        int before = made;
+        about = sentence + ": ";
+        test.run();
+        about = "";
+        due(sentence + " is checked", made > before, true);
+    }
 
     void due(String what, long got, long want) {
         made++;
         if (got != want) {
             wrong++;
-            System.out.println(what + " answered " + got + ", due is " + want);
+            System.out.println(about + what + " answered " + got + ", due is " + want);
         }
     }
 
@@ -33,7 +43,7 @@ final class Checks {
         }
         if (got != want) {
             wrong++;
-            System.out.println(what + " threw " + got + ", due is " + want);
+            System.out.println(about + what + " threw " + got + ", due is " + want);
         }
     }
 

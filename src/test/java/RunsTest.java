@@ -1,17 +1,24 @@
 import java.util.Random;
 import java.util.function.LongSupplier;
 
-/** Runs of calls drawn by fixed seeds, at most 512 an object, each answered as Model answers it. */
+/** Runs of calls drawn by fixed seeds; each of an object's 512 calls is answered as Model answers it. */
 final class RunsTest {
     private static final int RUNS = 900;
     private static final int MOST_CALLS = 512;
     private static final int GIVES = 12;
+    /** One run of so many goes on behind the 512th call, where every answer is free. */
+    private static final int LONG_RUNS = 30;
+    private static final int LONG = 2000;
+    private static final long ILLEGAL_ARGUMENT = 1L << 60;
+    private static final long ILLEGAL_STATE = 1L << 61;
+    private static final long OTHER = 1L << 62;
     private static final int[] WRONG = {-1, -2, 60, 400, 1001, 100001, Integer.MIN_VALUE, Integer.MAX_VALUE};
 
     private final Checks checks;
     private final String name;
     private final Random random;
     private final int floors;
+    private final boolean isLong;
     private final CallSums sums;
     private final Model model;
     private int calls;
@@ -22,6 +29,7 @@ final class RunsTest {
     private RunsTest(Checks checks, int seed) {
         this.checks = checks;
         this.name = "run " + seed + ": ";
+        this.isLong = seed % LONG_RUNS == 0;
         this.random = new Random(seed);
         // few floors and alike cars make many givings of one sum
         int[] sizes = {2, 3, 4, 6, 12, 60};
@@ -39,7 +47,7 @@ final class RunsTest {
     }
 
     private void run() {
-        while (calls < MOST_CALLS && gives < GIVES) {
+        while (isLong ? calls < LONG : calls < MOST_CALLS && gives < GIVES) {
             int kind = random.nextInt(100);
             if (kind < 70) {
                 change();
@@ -149,12 +157,20 @@ final class RunsTest {
     /** Whether both answer, and do not throw. */
     private boolean same(String call, LongSupplier got, LongSupplier want) {
         if (calls >= MOST_CALLS) {
-            return false;
+            return isLong && further(call, got);
         }
         calls++;
         long due = answer(want);
         checks.due(name + call, answer(got), due);
-        return due < (1L << 60);
+        return due < ILLEGAL_ARGUMENT;
+    }
+
+    /** Behind the 512th call nothing is due but that no other exception is thrown. */
+    private boolean further(String call, LongSupplier got) {
+        calls++;
+        long answer = answer(got);
+        checks.due(name + call + " throws another exception", answer == OTHER, false);
+        return answer < ILLEGAL_ARGUMENT;
     }
 
     /** An exception counts as a number that is no answer. */
@@ -162,8 +178,8 @@ final class RunsTest {
         try {
             return call.getAsLong();
         } catch (RuntimeException e) {
-            return e.getClass() == IllegalArgumentException.class ? 1L << 60
-                    : e.getClass() == IllegalStateException.class ? 1L << 61 : 1L << 62;
+            return e.getClass() == IllegalArgumentException.class ? ILLEGAL_ARGUMENT
+                    : e.getClass() == IllegalStateException.class ? ILLEGAL_STATE : OTHER;
         }
     }
 }
