@@ -412,7 +412,7 @@ public final class CallSums {
         final int[] car = new int[MOST_OPEN];
         final int[] pick = new int[MOST_OPEN];
         final int[] set = new int[MOST_OPEN];
-        /** For each set of slots: what a second more costs them all. */
+        /** For each set of slots: what a second more costs its calls. */
         final int[] burden = new int[Rows.SETS];
 
         private int count;
@@ -510,7 +510,7 @@ public final class CallSums {
         }
 
         private void weighSets() {
-            for (int slots = 1; slots < (1 << count); slots++) {
+            for (int slots = 1; slots < burden.length; slots++) {
                 burden[slots] = 0;
                 for (int slot = 0; slot < count; slot++) {
                     if ((slots >> slot & 1) != 0) {

@@ -410,8 +410,19 @@ final class GivingBoundaryTest {
             due("sum of the other", x.give(), 4);
             notGiven(x, 0);
             row(x, 0, 1);
+            due("it is left", x.left(), 1);
+            due("car 0 may begin no other one", x.begin(1, 0) ? 1 : 0, 0);
+            x.sleep(0, true);
+            due("asleep, 0 has no cars either", x.cars(0), 0);
+            x.sleep(0, false);
             x.zone(0, 0, 9);
             due("0 has car 0 again", x.cars(0), 1);
+            due("sum of both", x.give(), 9 + 13 + 9 + 13);
+            row(x, 0, 0);
+            row(x, 1, 1);
+            x.sleep(1, true);
+            due("sum of both by car 0", x.give(), 9 + 13 + 24 + 28);
+            row(x, 0, 0, 1);
         });
         about("Terms: each of four cars has begun one", () -> {
             CallSums x = carsAt(0, 3, 6, 9);
